@@ -76,10 +76,18 @@ public final class PutTest {
     }
 
     private static void splitDealsRecordsInTheirOrder() {
+        splitDeals(0, 1, 2, 3, 4, 5, 6, 7, 8);
+        splitDeals(7, 4, 6, 3, 5, 8, 2, 1, 0);
+        splitDeals(3, 0, 4, 1, 8, 2, 9, 5, 13);
+        splitDeals(7, 4, 6, 3, 5, 8, 2, 9, 1);
+    }
+
+    /** Of the names with these first bytes the last one makes page 0 split. */
+    private static void splitDeals(int... firsts) {
         FormulaPages x = new FormulaPages(2);
         List<Integer> without = new ArrayList<>();
         List<Integer> with = new ArrayList<>();
-        for (int b = 0; b < 10; b++) {
+        for (int b : firsts) {
             Check.put(x, 7, b, 0);
             (Check.sum(b, 0) % 2 == 0 ? without : with).addAll(List.of(2, b, 0, 0, 0, 0, 7));
         }

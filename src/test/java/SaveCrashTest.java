@@ -10,6 +10,8 @@ public final class SaveCrashTest {
         saveLeavesTheFedName();
         saveOfAlteredPages();
         crashLosesWhatIsNotKept();
+        crashBringsTheKeptTableBack();
+        crashReadsNamesOfAllLengths();
         crashKeepsWholeActsOnly();
         crashTwiceIsAsOnce();
         actsGoOnBehindTheCut();
@@ -88,6 +90,48 @@ public final class SaveCrashTest {
         }), Check.picture(() -> new FormulaPages(3)));
     }
 
+    /** Page 1 of DEPTH 1 lies at two of the four entries that are kept, and splits after it. */
+    private static void crashBringsTheKeptTableBack() {
+        FormulaPages x = new FormulaPages(9);
+        putAll(x, Check.namesWithBits(0, 2, 5));
+        putAll(x, Check.namesWithBits(2, 2, 5));
+        x.save();
+        putAll(x, Check.namesWithBits(1, 2, 5));
+        putAll(x, Check.namesWithBits(3, 2, 5));
+        CHECK.due("entry(3)", x.entry(3), 3);
+        x.crash(0);
+        CHECK.due("entry(3)", x.entry(3), 1);
+        CHECK.due("used", x.count(1), 3);
+        putAll(x, Check.namesWithBits(1, 2, 5));
+        putAll(x, Check.namesWithBits(3, 2, 5));
+        CHECK.due("entry(3)", x.entry(3), 3);
+    }
+
+    private static void putAll(FormulaPages x, List<int[]> names) {
+        for (int[] name : names) {
+            Check.put(x, 1, name);
+        }
+    }
+
+    private static void crashReadsNamesOfAllLengths() {
+        FormulaPages x = new FormulaPages(40);
+        for (int length = 1; length <= 12; length++) {
+            Check.put(x, -length, nameOf(length));
+        }
+        CHECK.due("crash", x.crash(x.count(4)), 12);
+        for (int length = 1; length <= 12; length++) {
+            CHECK.due("find " + length, Check.find(x, nameOf(length)), -length);
+        }
+    }
+
+    private static int[] nameOf(int length) {
+        int[] name = new int[length];
+        for (int i = 0; i < length; i++) {
+            name[i] = 20 * length + i;
+        }
+        return name;
+    }
+
     private static void crashKeepsWholeActsOnly() {
         for (int kept = 0; kept <= 32; kept++) {
             FormulaPages x = savedAndMore();
@@ -137,8 +181,10 @@ public final class SaveCrashTest {
         CHECK.due("badAt", x.badAt(), -1);
         CHECK.due("byteAt", x.byteAt(2, 63), 0);
         CHECK.due("names", x.count(2), 14);
-        x.poke(0, 0, 255);
+        x.poke(0, 0, 1);
         CHECK.due("a poke after it", Check.thrownBy(x, y -> y.save()), "IllegalStateException");
+        x.poke(0, 0, 1);
+        CHECK.due("taken back", x.save(), 14);
     }
 
     private static void crashStopsAtAWrongCheckByte() {
@@ -191,12 +237,20 @@ public final class SaveCrashTest {
     }
 
     private static void crashPutsWhatTheJournalTells() {
+        crashPutsForged(-7);
+        crashPutsForged(0);
+        for (int shift = 0; shift < 32; shift++) {
+            crashPutsForged(5 << shift);
+        }
+    }
+
+    private static void crashPutsForged(int v) {
         FormulaPages x = new FormulaPages(1);
         Check.put(x, 9, 1, 2, 3);
         Check.put(x, 10, 4);
-        forge(x, 0, Model.act(new int[] {1, 2, 3}, 9), Model.act(new int[] {1, 2, 8}, -7));
+        forge(x, 0, Model.act(new int[] {1, 2, 3}, 9), Model.act(new int[] {1, 2, 8}, v));
         CHECK.due("crash", x.crash(16), 2);
-        CHECK.due("forged", Check.find(x, 1, 2, 8), -7);
+        CHECK.due("forged", Check.find(x, 1, 2, 8), v);
         CHECK.due("lost", Check.has(x, 1, 2, 3), false);
         CHECK.due("behind it", Check.find(x, 4), 10);
         CHECK.due("journal", x.count(4), 16);
