@@ -192,8 +192,8 @@ public final class FormulaPages {
     }
 
     /**
-     * Small numbers in a row. A place outside of it reads as 0 and takes nothing, so that the one
-     * test of an index stands here.
+     * Small numbers in a row. A place outside of it reads as 0 and takes nothing, so that indexes
+     * are tested here and nowhere else.
      */
     private static final class Row {
         private static final int TURN = 11;
@@ -317,6 +317,7 @@ public final class FormulaPages {
         }
     }
 
+    /** A page's bytes. Only what is not altered is walked, so the records are always as put. */
     private static final class Page {
         private final Row row = new Row(PAGE_BYTES);
         private int end = RECORDS_AT;
