@@ -414,7 +414,7 @@ public final class FormulaPages {
         }
 
         private void countRecord(int size) {
-            row.set(RECORD_COUNT_AT, records() + 1);
+            row.set(RECORD_COUNT_AT, row.get(RECORD_COUNT_AT) + 1);
             end += size;
         }
 

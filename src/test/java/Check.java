@@ -6,11 +6,24 @@ import java.util.function.Supplier;
 /** What the tests have in common: comparing, feeding, sums and pictures of an object. */
 final class Check {
     private int wrong = 0;
+    private String sentence = "";
+
+    /** What tests a sentence of the document; what is not as due there is told with its words. */
+    void sentence(String words, Runnable test) {
+        sentence = "\"" + words + "\": ";
+        try {
+            test.run();
+        } catch (RuntimeException e) {
+            e.printStackTrace(System.out);
+            due("the test", e.getClass().getSimpleName(), "no exception");
+        }
+        sentence = "";
+    }
 
     void due(String call, Object got, Object want) {
         if (!got.equals(want)) {
             wrong++;
-            System.out.println(call + " answered " + got + ", due is " + want);
+            System.out.println(sentence + call + " answered " + got + ", due is " + want);
         }
     }
 
@@ -18,7 +31,21 @@ final class Check {
     void dueThrow(Supplier<FormulaPages> make, String call, Class<?> want,
             Consumer<FormulaPages> run) {
         due(call + " throws", thrownBy(make.get(), run), want.getSimpleName());
-        due(call + " leaves", picture(after(make, run)), picture(make));
+        dueSame(call + " leaves", after(make, run), make);
+    }
+
+    /**
+     * The same for an object with an altered page. Its fed name can be seen only when the page is
+     * as it was, so the pictures are taken once more behind what makes it so.
+     */
+    void dueThrowAltered(Supplier<FormulaPages> make, Consumer<FormulaPages> mend, String call,
+            Class<?> want, Consumer<FormulaPages> run) {
+        dueThrow(make, call, want, run);
+        dueSame(call + " leaves, mended", after(after(make, run), mend), after(make, mend));
+    }
+
+    void dueSame(String call, Supplier<FormulaPages> got, Supplier<FormulaPages> want) {
+        due(call, picture(got), picture(want));
     }
 
     void end() {
@@ -57,6 +84,12 @@ final class Check {
         return x.put(v);
     }
 
+    static void putAll(FormulaPages x, int v, List<int[]> names) {
+        for (int[] name : names) {
+            put(x, v, name);
+        }
+    }
+
     static boolean has(FormulaPages x, int... name) {
         feed(x, name);
         return x.has();
@@ -86,6 +119,38 @@ final class Check {
         return row;
     }
 
+    static List<Integer> table(FormulaPages x) {
+        List<Integer> table = new ArrayList<>();
+        int entries = 1 << x.count(0);
+        for (int e = 0; e < entries; e++) {
+            table.add(x.entry(e));
+        }
+        return table;
+    }
+
+    /** What the four bytes are of a number or a SUM, the highest first. */
+    static List<Integer> fourBytes(long number) {
+        return List.of((int) (number >> 24 & 255), (int) (number >> 16 & 255),
+                (int) (number >> 8 & 255), (int) (number & 255));
+    }
+
+    /** A whole page as it is due: DEPTH, records, zeros, SUM. */
+    static List<Integer> page(int depth, int records, List<Integer> bytes) {
+        List<Integer> page = new ArrayList<>(List.of(depth, records));
+        page.addAll(bytes);
+        while (page.size() < 60) {
+            page.add(0);
+        }
+        page.addAll(fourBytes(sum(Model.ints(page))));
+        return page;
+    }
+
+    /** What a record is: an act of the journal without its last byte. */
+    static List<Integer> record(int v, int... name) {
+        List<Integer> act = Model.act(name, v);
+        return act.subList(0, act.size() - 1);
+    }
+
     /**
      * All that can be known of an object: what is seen, and what is seen when it loses the journal,
      * reads it again, or puts the name that is fed. Each look is at an object of its own, because
@@ -103,28 +168,14 @@ final class Check {
         StringBuilder out = new StringBuilder();
         for (int what = 0; what <= 5; what++) {
             int asked = what;
-            String thrown = thrownBy(x, y -> y.count(asked));
-            out.append(thrown.equals("nothing") ? "" + x.count(what) : thrown).append(' ');
+            String thrown = thrownBy(x, y -> out.append(y.count(asked)));
+            out.append(thrown.equals("nothing") ? "" : thrown).append(' ');
         }
-        out.append("bad ").append(x.badAt()).append(" table");
-        for (int e = 0; e < 1 << x.count(0); e++) {
-            out.append(' ').append(x.entry(e));
-        }
-        for (int page = 0; page < x.count(5); page++) {
+        out.append("bad ").append(x.badAt()).append(" table ").append(table(x));
+        int pages = x.count(5);
+        for (int page = 0; page < pages; page++) {
             out.append('\n').append(bytes(make.get(), page, 0, 64));
         }
         return out.toString();
-    }
-
-    /** Names of two bytes whose HASHES have these as their lowest bits. */
-    static List<int[]> namesWithBits(int bits, int howMany, int most) {
-        List<int[]> names = new ArrayList<>();
-        for (int i = 0; i < 65536 && names.size() < most; i++) {
-            int[] name = {i / 256, i % 256};
-            if (sum(name) % (1L << howMany) == bits) {
-                names.add(name);
-            }
-        }
-        return names;
     }
 }

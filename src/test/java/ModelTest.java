@@ -63,11 +63,11 @@ public final class ModelTest {
     private List<int[]> somePool() {
         switch (random.nextInt(5)) {
             case 0:
-                return Check.namesWithBits(random.nextInt(32), 5, 40);
+                return Make.namesWithBits(random.nextInt(32), 5, 40);
             case 1:
-                return Check.namesWithBits(random.nextInt(4), 2, 200);
+                return Make.namesWithBits(random.nextInt(4), 2, 200);
             case 2:
-                return Check.namesWithBits(0, 0, 65536);
+                return Make.namesWithBits(0, 0, 65536);
             default:
                 return mixedPool();
         }
