@@ -83,6 +83,15 @@ public final class CrashTest {
                 "IllegalStateException");
         x.poke(0, 0, 1);
         CHECK.due("it is now", x.save(), 14);
+        FormulaPages other = more.get();
+        other.poke(0, 0, 1);
+        other.crash(32);
+        other.poke(0, 0, 2);
+        CHECK.due("another mask of the same byte", Check.thrownBy(other, y -> y.save()),
+                "IllegalStateException");
+        CHECK.due("byteAt", other.byteAt(0, 0), 1 ^ 2);
+        other.poke(0, 0, 2);
+        CHECK.due("taken back", other.save(), 14);
     }
 
     private static void putAgain() {
@@ -213,7 +222,7 @@ public final class CrashTest {
         CHECK.due("has 99", Check.has(x, 99), false);
     }
 
-    /** Written over a known name's act, a ninth alike would need D 6; the splits leave no trace. */
+    /** Written over a known name's act, a ninth needs D 5, or D 6, whose splits leave no trace. */
     private static void refusedForDepth() {
         int[] known = Make.namesWithBits(Make.BITS, 5, 8).get(0);
         for (int splits = 5; splits <= 6; splits++) {

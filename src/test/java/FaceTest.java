@@ -34,6 +34,7 @@ public final class FaceTest {
         CHECK.due("constructors", constructors.length, 1);
         CHECK.due("constructor", constructors[0].toString(), "public FormulaPages(int)");
         CHECK.due("methods", seenMethods(face), new TreeSet<>(Arrays.asList(FACE)));
+        duePrivateNames(face);
         for (Field field : face.getDeclaredFields()) {
             CHECK.due("private " + field, Modifier.isPrivate(field.getModifiers()), true);
         }
@@ -54,13 +55,13 @@ public final class FaceTest {
         return seen;
     }
 
-    /** No method of the classes inside bears a name of the face. */
-    private static void duePrivateNames(Class<?> inside) {
-        for (Method method : inside.getDeclaredMethods()) {
+    /** No method but the face's own bears a name of the face. */
+    private static void duePrivateNames(Class<?> some) {
+        for (Method method : some.getDeclaredMethods()) {
             for (Method of : FormulaPages.class.getMethods()) {
                 boolean isOfTheFace = of.getDeclaringClass() == FormulaPages.class;
-                CHECK.due(inside + " " + method.getName(),
-                        isOfTheFace && of.getName().equals(method.getName()), false);
+                CHECK.due(some + " " + method, isOfTheFace && !of.equals(method)
+                        && of.getName().equals(method.getName()), false);
             }
         }
     }

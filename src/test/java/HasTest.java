@@ -10,6 +10,8 @@ public final class HasTest {
         CHECK.sentence("Whether the FED name has a RECORD: beginnings and longer names haven't",
                 HasTest::nearlyTheSameName);
         CHECK.sentence("Whether the FED name has a RECORD: in split pages", HasTest::inSplitPages);
+        CHECK.sentence("Whether the FED name has a RECORD: a SUM behind the last RECORD is none",
+                HasTest::sumsAreNoRecords);
         CHECK.sentence("none is FED then", HasTest::noneIsFedThen);
         CHECK.sentence("none is FED then: and nothing else changes", HasTest::elseNothingChanges);
         CHECK.sentence("IllegalStateException: likewise: none is FED", HasTest::noneIsFed);
@@ -43,6 +45,23 @@ public final class HasTest {
             }
             CHECK.due("unknown", Check.has(x, 255, 255), false);
         }
+    }
+
+    /** In a full page the SUM stands where a record would be, and may read like a name's. */
+    private static void sumsAreNoRecords() {
+        int met = 0;
+        for (int v = 0; v < 1000; v++) {
+            FormulaPages x = Make.filledTo(1, 58);
+            Check.put(x, v, 203, 203, 203, 203, 203, 203, 203, 203, 203, 203);
+            int length = x.byteAt(0, 60);
+            if (length >= 1 && length <= 3) {
+                met++;
+                int[] name = Model.ints(Check.bytes(x, 0, 61, 61 + length));
+                CHECK.due("has", Check.has(x, name), false);
+                CHECK.due("find", Check.find(x, name), 0);
+            }
+        }
+        CHECK.due("some read so", met > 0, true);
     }
 
     private static void noneIsFedThen() {

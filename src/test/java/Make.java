@@ -69,12 +69,18 @@ final class Make {
         return x;
     }
 
-    /** A ninth name that has room after just so many splits of eight(), 1 to 5; never if 6. */
+    /**
+     * A ninth name that just so many splits of eight() take apart from the others: 1 to 5, or 6,
+     * which are too many.
+     */
     static int[] ninth(int splits) {
-        if (splits > 5) {
-            return namesWithBits(BITS, 5, 9).get(8);
-        }
-        return namesWithBits(BITS ^ (1 << (splits - 1)), 5, 1).get(0);
+        int six = (int) (Check.sum(namesWithBits(BITS, 5, 8).get(0)) % 64);
+        return namesWithBits(six ^ (1 << (splits - 1)), 6, 1).get(0);
+    }
+
+    /** A ninth name that no split takes apart from the names of eight(). */
+    static int[] alike() {
+        return namesWithBits(BITS, 5, 9).get(8);
     }
 
     /** An object whose D is this, 0 to 5, by splits one behind the other; d + 1 pages are USED. */

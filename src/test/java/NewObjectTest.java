@@ -41,6 +41,12 @@ public final class NewObjectTest {
                 Check.thrownBy(made.get(), x -> x.byteAt(due, 0)),
                 "ArrayIndexOutOfBoundsException");
         CHECK.due("used of " + asked, made.get().count(1), 1);
+        FormulaPages x = made.get();
+        x.poke(due - 1, 63, 1);
+        CHECK.due("altered last page of " + asked, Check.thrownBy(x, y -> y.save()),
+                "IllegalStateException");
+        x.poke(due - 1, 63, 1);
+        CHECK.due("names of " + asked, x.count(2), 0);
     }
 
     private static void noNameIsFed() {

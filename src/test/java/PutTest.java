@@ -64,9 +64,10 @@ public final class PutTest {
         FormulaPages x = Make.filledTo(1, 58);
         CHECK.due("refused", Check.put(x, 1, ANOTHER), -1);
         int[] known = {200, 200, 200, 200, 200, 200, 200, 200, 200};
-        while (x.count(4) + 15 + 18 <= 600) {
+        for (int i = 0; i < 34; i++) {
             Check.put(x, 1, known);
         }
+        CHECK.due("journal", x.count(4), 62 + 34 * 15);
         CHECK.due("refused still", Check.put(x, 1, ANOTHER), -1);
         Check.put(x, 1, known);
         CHECK.due("and no room", Check.put(x, 1, ANOTHER), -2);

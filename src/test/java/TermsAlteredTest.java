@@ -22,6 +22,7 @@ public final class TermsAlteredTest {
                 TermsAlteredTest::whoDoesNotThrow);
         CHECK.sentence("Of several the one that stands first behind \"throws\" is thrown",
                 TermsAlteredTest::firstBehindThrows);
+        CHECK.sentence("is thrown; nothing changes", TermsAlteredTest::nothingChanges);
         CHECK.end();
     }
 
@@ -168,5 +169,27 @@ public final class TermsAlteredTest {
             dueNotThere("pokeJournal(600, " + mask + ")", x -> x.pokeJournal(600, mask));
             dueNotThere("pokeJournal(-1, " + mask + ")", x -> x.pokeJournal(-1, mask));
         }
+    }
+
+    /** Every call that can throw, one behind the other, on an object that has something of all. */
+    private static void nothingChanges() {
+        Supplier<FormulaPages> altered = Check.after(TermsAlteredTest::some, x -> {
+            x.pokeJournal(9, 1);
+            x.poke(0, 5, 1);
+        });
+        Consumer<FormulaPages> mend = x -> x.poke(0, 5, 1);
+        List<Consumer<FormulaPages>> calls = List.of(x -> x.feed(256), x -> x.put(1),
+                x -> x.has(), x -> x.find(), x -> x.save(), x -> x.crash(17),
+                x -> x.poke(3, 5, 1), x -> x.poke(0, 5, 256), x -> x.pokeJournal(600, 1),
+                x -> x.pokeJournal(9, 0), x -> x.byteAt(0, 64), x -> x.entry(2),
+                x -> x.count(2));
+        Consumer<FormulaPages> all = x -> {
+            for (Consumer<FormulaPages> call : calls) {
+                CHECK.due("a call throws", Check.thrownBy(x, call).equals("nothing"), false);
+            }
+        };
+        CHECK.dueSame("all calls", Check.after(altered, all), altered);
+        CHECK.dueSame("all calls, mended", Check.after(Check.after(altered, all), mend),
+                Check.after(altered, mend));
     }
 }

@@ -8,8 +8,8 @@ public final class TermsPutTest {
 
     public static void main(String[] args) {
         CHECK.sentence("if it has a RECORD, that gets the number", TermsPutTest::knownNames);
-        CHECK.sentence("the RECORD has room ahead of byte 60 of its page: it just has",
-                TermsPutTest::roomToTheLastByte);
+        CHECK.sentence("If it has none, and the RECORD has room ahead of byte 60 of its page, it"
+                + " comes there", TermsPutTest::roomToTheLastByte);
         CHECK.sentence("the RECORD has room ahead of byte 60 of its page: a byte too much",
                 TermsPutTest::roomShortOfAByte);
         CHECK.sentence("If not, that page p, of DEPTH d, SPLITS", TermsPutTest::splitsIfNoRoom);
@@ -37,6 +37,7 @@ public final class TermsPutTest {
                 + " 5", TermsPutTest::refusedForDepth);
         CHECK.sentence("would need a page that there isn't: all 32 that D 5 can use",
                 TermsPutTest::allPagesUsed);
+        CHECK.sentence("D above 5: though pages aren't USED", TermsPutTest::allDepthsReached);
         CHECK.end();
     }
 
@@ -274,6 +275,7 @@ public final class TermsPutTest {
         CHECK.due("D may be 5", Check.put(Make.eight(40), 1, Make.ninth(5)), 8);
         dueRefused(40, Make.ninth(6));
         dueRefused(7, Make.ninth(6));
+        dueRefused(40, Make.alike());
         for (int d = 1; d <= 5; d++) {
             int before = d;
             Supplier<FormulaPages> deep = () -> Make.deep(40, before);
@@ -299,5 +301,20 @@ public final class TermsPutTest {
         CHECK.due("a page too few", Check.put(short1.get(), 1, last), -1);
         CHECK.due("used", short1.get().count(1), 31);
         CHECK.dueSame("refused", Check.after(short1, x -> Check.put(x, 1, last)), short1);
+    }
+
+    /** Of 40 pages 32 are of DEPTH 5; one has five names, gets three, and cannot split for one. */
+    private static void allDepthsReached() {
+        List<int[]> names = Make.namesWithBits(Make.BITS, 5, 8).subList(5, 8);
+        Supplier<FormulaPages> eight = Check.after(() -> Make.allPages(40), x -> {
+            for (int[] name : names) {
+                CHECK.due("put", Check.put(x, 2, name) >= 0, true);
+            }
+        });
+        int[] ninth = Make.ninth(6);
+        CHECK.due("used", eight.get().count(1), 32);
+        CHECK.due("ninth", Check.put(eight.get(), 1, ninth), -1);
+        CHECK.due("refused", Check.look(Check.after(eight, x -> Check.put(x, 1, ninth))),
+                Check.look(eight));
     }
 }
